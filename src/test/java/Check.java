@@ -30,12 +30,17 @@ final class Check {
         dueThrow(what, "IllegalStateException", call);
     }
 
-    /** The name of the exact class: one that the machine throws is of a class below it. */
+    /**
+     * The answer, or the exact class of what was thrown: what the machine throws is of a class below the
+     * document's. What the library throws may be of the very class, but never comes from the class's own lines.
+     */
     static String outcome(Call call) {
         try {
             return Long.toString(call.answer());
         } catch (RuntimeException thrown) {
-            return thrown.getClass().getSimpleName();
+            StackTraceElement[] trace = thrown.getStackTrace();
+            boolean own = trace.length > 0 && trace[0].getClassName().contains("Ledger");
+            return thrown.getClass().getSimpleName() + (own ? "" : " of the library");
         }
     }
 

@@ -259,6 +259,8 @@ public final class FilesTest {
         ledger.pass(48);
         ledger.setLimits(PROJECT, 0, 1000, NONE, NONE);
         Check.due("14: grace gone", -5, ledger.reserve(0, 1));
+        ledger.setLimits(PROJECT, 0, NONE, NONE, 0);
+        Check.due("14: a limit of files bars no blocks", 3, ledger.reserve(0, 1));
     }
 
     private static void reservingWrongly() {

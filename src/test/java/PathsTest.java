@@ -13,6 +13,7 @@ public final class PathsTest {
         movingTooDeep();
         movingToTheSameParent();
         movingAccounts();
+        movingDeletedFiles();
         lettersOfPaths();
         countingProjects();
         Check.end();
@@ -229,6 +230,18 @@ public final class PathsTest {
             Check.due("7: grace of " + project, grace[project], ledger.grace(2, project));
         }
         Check.due("7: limits go with the project", -4, ledger.write(0, 1));
+    }
+
+    private static void movingDeletedFiles() {
+        AllotmentLedger ledger = Ledgers.withProjects("a", "ab", "x");
+        ledger.makeFile(0, 2);
+        ledger.makeFile(0, 2);
+        ledger.write(0, 5);
+        ledger.delete(0);
+        Ledgers.path(ledger, "x");
+        ledger.moveProject(2);
+        Check.due("7: a deleted file is nowhere", 0, ledger.filesOf(2, 1));
+        Check.due("7: nor where the project is then", 1, ledger.filesOf(2, 3));
     }
 
     private static void lettersOfPaths() {

@@ -93,6 +93,11 @@ public final class RecountTest {
         ledger.makeFile(5, 1);
         ledger.makeFile(5, 1);
         Check.due("24: one of two left", 1, ledger.recount(1));
+        Ledgers.path(ledger, "z");
+        int made = ledger.makeProject();
+        Check.due("25: a project made later", 0, ledger.counted(PROJECT, made));
+        ledger.moveFile(0, made);
+        Check.due("25: a taken file moved into it", 1, ledger.counted(PROJECT, made));
     }
 
     private static void countedWrongly() {
