@@ -238,14 +238,13 @@ public final class AllotmentLedger {
     // ---- files
 
     public int makeFile(int user, int project) throws IndexOutOfBoundsException, IllegalStateException {
-        if (user < 0 || user >= users.size()) {
-            throw new IndexOutOfBoundsException("no such user");
-        }
+        Account owner = accountOf(USER, user);
+        Account group = accountOf(GROUP, user % GROUPS);
         Project home = projectOfNumber(project);
         if (store.size() >= MOST_FILES) {
             throw new IllegalStateException("there are all the files that can be");
         }
-        StoredFile file = new StoredFile(store.size(), users.get(user), groups.get(user % GROUPS), home);
+        StoredFile file = new StoredFile(store.size(), owner, group, home);
         int barring = barringPlace(file, 0, 1);
         if (barring != NONE) {
             return barredAnswer(barring);
