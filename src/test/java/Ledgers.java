@@ -21,6 +21,18 @@ final class Ledgers {
         return ledger;
     }
 
+    /** Files 0 to 3 with 1, 10, 100 and 1000 blocks, in a, ab, b and the root, of users 0 to 3. */
+    static AllotmentLedger withFourFiles() {
+        AllotmentLedger ledger = withProjects("a", "ab", "b");
+        int[] projects = {1, 2, 3, 0};
+        int[] blocks = {1, 10, 100, 1000};
+        for (int file = 0; file < 4; file++) {
+            ledger.makeFile(file, projects[file]);
+            ledger.write(file, blocks[file]);
+        }
+        return ledger;
+    }
+
     static String pathOf(AllotmentLedger ledger, int project) {
         StringBuilder letters = new StringBuilder();
         for (int place = 0; ledger.letterAt(project, place) != ' '; place++) {

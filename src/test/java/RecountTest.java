@@ -17,18 +17,6 @@ public final class RecountTest {
         Check.end();
     }
 
-    /** Files 0 to 3 with 1, 10, 100 and 1000 blocks, in a, ab, b and the root, of users 0 to 3. */
-    private static AllotmentLedger withFiles() {
-        AllotmentLedger ledger = Ledgers.withProjects("a", "ab", "b");
-        int[] projects = {1, 2, 3, 0};
-        int[] blocks = {1, 10, 100, 1000};
-        for (int file = 0; file < 4; file++) {
-            ledger.makeFile(file, projects[file]);
-            ledger.write(file, blocks[file]);
-        }
-        return ledger;
-    }
-
     private static void dueCounts(String what, AllotmentLedger ledger, int... projects) {
         for (int project = 0; project < projects.length; project++) {
             Check.due(what + ", counted of project " + project, projects[project], ledger.counted(PROJECT, project));
@@ -36,7 +24,7 @@ public final class RecountTest {
     }
 
     private static void beginning() {
-        AllotmentLedger ledger = withFiles();
+        AllotmentLedger ledger = Ledgers.withFourFiles();
         Check.due("23: no files", 0, new AllotmentLedger().beginRecount());
         ledger.delete(1);
         Check.due("23: deleted ones counted", 4, ledger.beginRecount());
@@ -54,7 +42,7 @@ public final class RecountTest {
     }
 
     private static void taking() {
-        AllotmentLedger ledger = withFiles();
+        AllotmentLedger ledger = Ledgers.withFourFiles();
         ledger.reserve(1, 5);
         ledger.beginRecount();
         Check.due("24: one taken", 3, ledger.recount(1));
@@ -70,7 +58,7 @@ public final class RecountTest {
     }
 
     private static void takingWrongly() {
-        AllotmentLedger ledger = withFiles();
+        AllotmentLedger ledger = Ledgers.withFourFiles();
         Check.throwsState("24: not begun", () -> ledger.recount(1));
         Check.throwsArgument("24: not begun, 0 files", () -> ledger.recount(0));
         Check.throwsArgument("24: not begun, 41 files", () -> ledger.recount(41));
@@ -82,7 +70,7 @@ public final class RecountTest {
     }
 
     private static void takingFilesMadeLater() {
-        AllotmentLedger ledger = withFiles();
+        AllotmentLedger ledger = Ledgers.withFourFiles();
         ledger.beginRecount();
         ledger.recount(4);
         ledger.makeFile(5, 1);
@@ -101,7 +89,7 @@ public final class RecountTest {
     }
 
     private static void countedWrongly() {
-        AllotmentLedger ledger = withFiles();
+        AllotmentLedger ledger = Ledgers.withFourFiles();
         Check.throwsState("25: not begun", () -> ledger.counted(USER, 0));
         Check.throwsIndex("25: not begun, no user", () -> ledger.counted(USER, 6));
         Check.throwsIndex("25: not begun, no kind", () -> ledger.counted(3, 0));
@@ -112,7 +100,7 @@ public final class RecountTest {
     }
 
     private static void changesOfTakenFiles() {
-        AllotmentLedger ledger = withFiles();
+        AllotmentLedger ledger = Ledgers.withFourFiles();
         ledger.beginRecount();
         ledger.recount(3);
         ledger.write(0, 4);
@@ -135,7 +123,7 @@ public final class RecountTest {
     }
 
     private static void changesOfFilesBehind() {
-        AllotmentLedger ledger = withFiles();
+        AllotmentLedger ledger = Ledgers.withFourFiles();
         ledger.beginRecount();
         ledger.recount(1);
         ledger.write(1, 5);
@@ -153,7 +141,7 @@ public final class RecountTest {
     }
 
     private static void movesOfProjects() {
-        AllotmentLedger ledger = withFiles();
+        AllotmentLedger ledger = Ledgers.withFourFiles();
         ledger.makeFile(4, 2);
         ledger.write(4, 500);
         ledger.beginRecount();
@@ -166,7 +154,7 @@ public final class RecountTest {
     }
 
     private static void wholeRecount() {
-        AllotmentLedger ledger = withFiles();
+        AllotmentLedger ledger = Ledgers.withFourFiles();
         ledger.reserve(3, 77);
         ledger.beginRecount();
         ledger.recount(40);
