@@ -5,10 +5,11 @@ import java.lang.reflect.Modifier;
 import java.util.Set;
 import java.util.TreeSet;
 
-/** The public face: every constant, constructor and method of the document, and nothing else to be seen. */
+/** The public face: every constant, constructor and method of the document, all public, and nothing else to be seen. */
 public final class FaceTest {
     private static final String[] FACE = {
-        "NONE = -1", "USER = 0", "GROUP = 1", "PROJECT = 2",
+        "static final int NONE = -1", "static final int USER = 0", "static final int GROUP = 1",
+        "static final int PROJECT = 2",
         "AllotmentLedger()",
         "int type(char) IllegalArgumentException IllegalStateException",
         "int back() IllegalStateException",
@@ -48,11 +49,12 @@ public final class FaceTest {
         Set<String> lines = new TreeSet<String>();
         for (Field field : AllotmentLedger.class.getDeclaredFields()) {
             if (!Modifier.isPrivate(field.getModifiers())) {
-                lines.add(field.getName() + " = " + field.get(null));
+                lines.add(modifiers(field.getModifiers()) + field.getType() + " " + field.getName() + " = " + field.get(null));
             }
         }
         for (Constructor<?> constructor : AllotmentLedger.class.getDeclaredConstructors()) {
-            lines.add(constructor.getName() + types(constructor.getParameterTypes()));
+            lines.add(modifiers(constructor.getModifiers()) + constructor.getName()
+                    + types(constructor.getParameterTypes()));
         }
         for (Method method : AllotmentLedger.class.getDeclaredMethods()) {
             if (!Modifier.isPrivate(method.getModifiers())) {
@@ -64,12 +66,21 @@ public final class FaceTest {
 
     private static String line(Method method) {
         StringBuilder line = new StringBuilder();
-        line.append(method.getReturnType()).append(' ').append(method.getName());
+        line.append(modifiers(method.getModifiers())).append(method.getReturnType()).append(' ').append(method.getName());
         line.append(types(method.getParameterTypes()));
         for (Class<?> thrown : method.getExceptionTypes()) {
             line.append(' ').append(thrown.getSimpleName());
         }
         return line.toString();
+    }
+
+    /** All but "public", which every member of the face bears; one that bears it not is told as such. */
+    private static String modifiers(int modifiers) {
+        String all = Modifier.toString(modifiers);
+        if (!all.startsWith("public")) {
+            return "not public: " + all + " ";
+        }
+        return all.equals("public") ? "" : all.substring("public ".length()) + " ";
     }
 
     private static String types(Class<?>[] types) {
