@@ -9,6 +9,7 @@ public final class PathEdgesTest {
     public static void main(String[] args) {
         promise1RootAlone();
         promise1EmptyBuffer();
+        promise1EachObjectIsItsOwn();
         promise2FirstAndLastLetter();
         promise2EighthLetter();
         promise3OneLetter();
@@ -36,6 +37,8 @@ public final class PathEdgesTest {
         promise7NumbersStay();
         promise7NothingIsBarred();
         promise7LimitsGoWithIt();
+        promise7LimitsOfFilesGoWithIt();
+        promise7SoftLimitsGoWithIt();
         promise7LastProject();
         promise8LastLetterAndASpace();
         promise8EightLetters();
@@ -75,6 +78,28 @@ public final class PathEdgesTest {
         Check.due("1: no letters", 0, new AllotmentLedger().clearPath());
         Check.throwsState("1: no letter to take away", () -> new AllotmentLedger().back());
         Check.due("1: the first letter", 1, new AllotmentLedger().type('k'));
+    }
+
+    // "Creates a ledger": what is asked of another one, made behind it, changes nothing in it.
+    private static void promise1EachObjectIsItsOwn() {
+        AllotmentLedger one = Ledgers.withFourFiles();
+        AllotmentLedger other = new AllotmentLedger();
+        at(other, "q").makeProject();
+        other.type('r');
+        other.makeFile(0, 1);
+        other.write(0, 77);
+        other.reserve(0, 7);
+        other.setLimits(USER, 0, 0, 0, 0);
+        other.setLimits(PROJECT, 0, 0, 0, 0);
+        other.pass(48);
+        other.beginRecount();
+        other.recount(40);
+        String seen = Picture.of(one);
+        Check.dueOutcome("1: one of two ledgers", Picture.of(Ledgers.withFourFiles()), seen);
+        Check.due("18: used of the other", 84, other.used(PROJECT, 1));
+        Check.due("25: counted of the other", 84, other.counted(USER, 0));
+        Check.due("21: grace of the other", 0, other.grace(USER, 0));
+        Check.due("4: letters of the other", 2, other.clearPath());
     }
 
     // "letter: a to z"
@@ -421,6 +446,47 @@ public final class PathEdgesTest {
         Check.due("22: room in c", 40, ledger.room(0));
         at(ledger, "a").moveProject(3);
         Check.due("11: a bars again", -5, ledger.write(0, 21));
+    }
+
+    private static void promise7LimitsOfFilesGoWithIt() {
+        AllotmentLedger ledger = Ledgers.withProjects("a", "ab", "abc", "x");
+        ledger.makeFile(0, 3);
+        int[] most = {NONE, 4, 3, 2, 1};
+        for (int project = 1; project < most.length; project++) {
+            ledger.setLimits(PROJECT, project, NONE, NONE, most[project]);
+        }
+        at(ledger, "x").moveProject(2);
+        Check.due("10: x bars in xbc", -6, ledger.makeFile(1, 3));
+        ledger.setLimits(PROJECT, 4, NONE, NONE, NONE);
+        Check.due("10: a second one in xbc", 1, ledger.makeFile(1, 3));
+        Check.due("10: xbc bars a third one", -4, ledger.makeFile(1, 3));
+        Check.due("10: a third one in xb", 2, ledger.makeFile(1, 2));
+        Check.due("10: xb bars a fourth one", -4, ledger.makeFile(1, 2));
+        Check.due("10: x bars none", 3, ledger.makeFile(1, 4));
+        for (int file = 4; file < 8; file++) {
+            Check.due("10: a has none of them", file, ledger.makeFile(1, 1));
+        }
+        Check.due("10: a bars a fifth one", -4, ledger.makeFile(1, 1));
+    }
+
+    private static void promise7SoftLimitsGoWithIt() {
+        AllotmentLedger ledger = Ledgers.withProjects("a", "ab", "abc", "x");
+        ledger.makeFile(0, 3);
+        for (int project = 1; project <= 4; project++) {
+            ledger.setLimits(PROJECT, project, 10 * project, NONE, NONE);
+        }
+        at(ledger, "x").moveProject(2);
+        int[] overAt = {0, 0, 21, 31, 41};
+        for (int blocks : new int[] {20, 21, 30, 31, 40, 41}) {
+            ledger.write(0, blocks - ledger.used(PROJECT, 3));
+            for (int project = 2; project <= 4; project++) {
+                Check.due("21: of project " + project + " with " + blocks, blocks >= overAt[project] ? 48 : NONE,
+                        ledger.grace(PROJECT, project));
+            }
+            Check.due("21: of a", NONE, ledger.grace(PROJECT, 1));
+        }
+        ledger.moveFile(0, 1);
+        Check.due("21: a has its own yet", 48, ledger.grace(PROJECT, 1));
     }
 
     // "Throws IndexOutOfBoundsException if there is no such project"
